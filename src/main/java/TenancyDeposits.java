@@ -148,7 +148,7 @@ public final class TenancyDeposits {
             return NONE;
         }
         history.push(book);
-        chosen.tellEnd(book.daysOf(chosen), condition);
+        chosen.tellEnd(book.daysOfItem(chosen), condition);
         return chosen.due;
     }
 
@@ -365,7 +365,7 @@ public final class TenancyDeposits {
             case 2:
                 return chosen.condition;
             case 3:
-                return chosen.fairAfter(book.daysOf(chosen));
+                return chosen.fairAfter(book.daysOfItem(chosen));
             case 4:
             case 5:
             case 6:
@@ -377,7 +377,7 @@ public final class TenancyDeposits {
             case 9:
                 return chosen.award();
             case 10:
-                return chosen.ageAfter(book.daysOf(chosen));
+                return chosen.ageAfter(book.daysOfItem(chosen));
             default:
                 return BAD_VALUE;
         }
@@ -388,7 +388,7 @@ public final class TenancyDeposits {
         if (chosen == null) {
             return 0.0f / 0.0f;
         }
-        return chosen.restAfter(book.daysOf(chosen));
+        return chosen.restAfter(book.daysOfItem(chosen));
     }
 
     public float weight(int item) {
@@ -442,7 +442,7 @@ public final class TenancyDeposits {
         if (book.stateOf(chosen) != RUNNING) {
             return NOT_POSSIBLE;
         }
-        return chosen.dueAfter(book.daysOf(chosen) + days, 0);
+        return chosen.dueAfter(book.daysOfItem(chosen) + days, 0);
     }
 
     public int count(int what) {
@@ -534,7 +534,7 @@ public final class TenancyDeposits {
             return item.endCondition;
         }
         if (what == 5) {
-            return item.damageAfter(book.daysOf(item), item.endCondition);
+            return item.damageAfter(book.daysOfItem(item), item.endCondition);
         }
         return item.due;
     }
@@ -633,7 +633,7 @@ public final class TenancyDeposits {
             for (int i = 0; i < itemCount; i++) {
                 Item item = itemAt(i);
                 if (item != null && item.home == number) {
-                    int days = daysOf(item);
+                    int days = daysOfItem(item);
                     item.tellEnd(days, item.fairAfter(days));
                 }
             }
@@ -644,7 +644,7 @@ public final class TenancyDeposits {
             return last - tenancy.beginDay;
         }
 
-        int daysOf(Item item) {
+        int daysOfItem(Item item) {
             Tenancy tenancy = tenancyAt(item.home);
             return tenancy == null ? 0 : daysOf(tenancy);
         }
