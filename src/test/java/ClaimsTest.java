@@ -22,6 +22,7 @@ public final class ClaimsTest {
         feeIsShared();
         feeIsCutFromLeftToRight();
         noDisputeNoFee();
+        oneCentIsAClaim();
         potDoesNotSuffice();
         landlordsPartOfTheFeeIsNotTakenOff();
         sumsOfClosedTenancies();
@@ -368,6 +369,15 @@ public final class ClaimsTest {
         book.setFee(50000);
         Check.due("close(0)", book.close(0), 42500);
         Check.due("no fees", book.count(10), 0);
+    }
+
+    private static void oneCentIsAClaim() {
+        TenancyDeposits book = ended(50000, 1);
+        book.claim(0, 1);
+        Check.due("put(0)", book.put(0), 1);
+        Check.due("answer", book.answer(0, false), 0);
+        Check.due("reason", book.reason(0), 2);
+        outcomeIs("one cent", book, 50000 - 5000 - 1, 1, 5000, 0, 0, 50000);
     }
 
     private static void potDoesNotSuffice() {

@@ -258,6 +258,10 @@ public final class TenanciesTest {
         Check.due("300 / 300 is 1", book.item(0, 3), 89);
         book.pass(2);
         Check.due("500 / 300 is 1", book.item(0, 3), 89);
+        book.pass(145);
+        Check.due("half of the life", book.item(0, 3), 40);
+        book.pass(119);
+        Check.due("one day before 0", book.item(0, 3), 1);
         book.pass(1000);
         Check.due("at least 0", book.item(0, 3), 0);
     }
