@@ -2,15 +2,21 @@
 final class Check {
     private static int answers = 0;
     private static int wrong = 0;
+    private static String sentence = "";
 
     private Check() {
+    }
+
+    /** The sentence of the document that the checks from here on are about; it is printed with what is wrong. */
+    static void says(String words) {
+        sentence = "[" + words + "] ";
     }
 
     static void due(String call, int got, int want) {
         answers++;
         if (got != want) {
             wrong++;
-            System.out.println(call + " answered " + got + ", due is " + want);
+            System.out.println(sentence + call + " answered " + got + ", due is " + want);
         }
     }
 
@@ -19,7 +25,7 @@ final class Check {
         answers++;
         if (Float.floatToIntBits(got) != Float.floatToIntBits(want)) {
             wrong++;
-            System.out.println(call + " answered " + got + ", due is " + want);
+            System.out.println(sentence + call + " answered " + got + ", due is " + want);
         }
     }
 
@@ -27,7 +33,7 @@ final class Check {
         answers++;
         if (!holds) {
             wrong++;
-            System.out.println("does not hold: " + what);
+            System.out.println(sentence + "does not hold: " + what);
         }
     }
 

@@ -199,7 +199,7 @@ public final class HistoryTest {
         book.begin(5000);
         book.addItem(0, 1000, 100, 7, 50);
         settled(book);
-        int[] facts = facts(book);
+        int[] facts = Facts.ofState(book);
         book.restore();
         book.pass(100);
         book.begin(90000);
@@ -207,7 +207,7 @@ public final class HistoryTest {
         for (int n = 0; n < 4; n++) {
             book.undo();
         }
-        theSame("undone", facts(book), facts);
+        Facts.theSame("undone", Facts.ofState(book), facts);
         book.keep();
         book.undo();
         book.begin(70000);
@@ -215,7 +215,7 @@ public final class HistoryTest {
         book.setRate(0);
         book.setFee(1);
         book.restore();
-        theSame("restored", facts(book), facts);
+        Facts.theSame("restored", Facts.ofState(book), facts);
     }
 
     private static void settled(TenancyDeposits book) {
@@ -230,36 +230,6 @@ public final class HistoryTest {
         book.setFee(300);
         book.pass(30);
         book.close(0);
-    }
-
-    /** All that is told of the state, with at most two tenancies and items. */
-    private static int[] facts(TenancyDeposits book) {
-        int[] facts = new int[80];
-        int size = 0;
-        for (int n = 0; n < 2; n++) {
-            for (int what = 0; what < 10; what++) {
-                facts[size++] = book.tenancy(n, what);
-            }
-            for (int what = 0; what < 6; what++) {
-                facts[size++] = book.outcome(n, what);
-            }
-            for (int what = 0; what < 11; what++) {
-                facts[size++] = book.item(n, what);
-            }
-            facts[size++] = Float.floatToIntBits(book.rest(n));
-            facts[size++] = Float.floatToIntBits(book.weight(n));
-        }
-        for (int what = 0; what < 12; what++) {
-            facts[size++] = book.count(what);
-        }
-        facts[size] = Float.floatToIntBits(book.rate());
-        return facts;
-    }
-
-    private static void theSame(String name, int[] got, int[] want) {
-        for (int n = 0; n < want.length; n++) {
-            Check.due(name + ", fact " + n, got[n], want[n]);
-        }
     }
 
     private static void whatComesAnewAfterUndoIsFresh() {
